@@ -386,10 +386,6 @@ public final class RightsDesk {
             return state == HELD || state == OFFERED;
         }
 
-        boolean isOut() {
-            return isHeldOrOffered() || state == EXERCISED;
-        }
-
         void turnTo(int newState, int newAsking) {
             state = newState;
             asking = newAsking;

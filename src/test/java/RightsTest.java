@@ -137,6 +137,11 @@ public final class RightsTest {
         x.cancel(2);
         x.buy(0, 1);
         check.due("rule 1, 4 out, one cancelled", x.right(12, 2), 155);
+        RightsDesk y = deskWith(60, 1, 5, 9999, 1);
+        for (int i = 0; i < 6; i++) {
+            y.buy(0, 0);
+            check.due("rule 1, one place, " + i + " out", y.right(i, 2), 9999 * (i + 1));
+        }
     }
 
     private static void buyInTheDaysOfCover() {
@@ -215,7 +220,7 @@ public final class RightsTest {
         check.due("buyOffered(7, 0)", x.buyOffered(7, 0), 1);
         check.due("buyOffered(7, 0)", x.buyOffered(7, 0), -4);
         check.due("holder(7, 1)", x.holder(7, 1), 3);
-        x.offer(2, 10);
+        check.due("what was asked before the resale is forgotten", x.offer(2, 10), 0);
         check.due("bought back", x.buyOffered(2, 0), 2);
         check.due("right(2, 6)", x.right(2, 6), 2);
         check.due("right(2, 2) stays", x.right(2, 2), 100);
@@ -259,6 +264,17 @@ public final class RightsTest {
         check.due("holder(2, 0)", x.holder(2, 0), MORE - 33 + 200);
         check.due("holder(1, 0)", x.holder(1, 0), MORE - 83 - 200);
         check.due("count(9)", x.count(9), MORE + 116);
+        x.set(1, 50);
+        x.offer(0, 200);
+        x.buyOffered(3, 0);
+        check.due("holder(1, 0)", x.holder(1, 0), MORE - 283 + 100);
+        x.set(1, 10);
+        x.offer(0, 100);
+        x.buyOffered(4, 0);
+        check.due("holder(3, 0)", x.holder(3, 0), MORE - 200 + 90);
+        x.offer(0, 9);
+        x.buyOffered(5, 0);
+        check.due("holder(4, 0)", x.holder(4, 0), MORE - 100 + 9);
     }
 
     private static void cancel() {
@@ -556,6 +572,8 @@ public final class RightsTest {
         check.due("await(0, 1)", x.await(0, 1), -1);
         for (int i = 0; i < 6; i++) {
             check.due("await(" + i + ", 0)", x.await(i, 0), i + 1);
+            check.due("await(" + i + ", 0) again", x.await(i, 0), -4);
+            check.due("await(0, 0) again", x.await(0, 0), -4);
         }
         check.due("await(6, 0)", x.await(6, 0), -3);
         check.due("await(5, 0), in the full list", x.await(5, 0), -4);
@@ -798,6 +816,15 @@ public final class RightsTest {
         y.await(6, 0);
         y.pass(1);
         check.due("at the price of the new day", y.right(0, 2), 154);
+        check.due("who has bought leaves the list", y.date(0, 12), 0);
+        y.addDate(60, 20, 0, 7, 0);
+        for (int i = 0; i < 6; i++) {
+            y.await(9 - i, 1);
+        }
+        y.pass(1);
+        check.due("all six of a list buy on one day", y.count(2), 7);
+        check.due("all six of a list buy on one day", y.date(1, 12), 0);
+        check.due("the last of the list", y.right(6, 1), 4);
         RightsDesk z = deskWith(1, 3, 0, 100, 2);
         z.await(6, 0);
         z.pass(1);
