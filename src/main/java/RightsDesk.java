@@ -145,11 +145,15 @@ public final class RightsDesk {
             return orders;
         }
         history.prepare(now);
-        int answer = performOrders(orders);
-        if (answer < 0) {
-            now.copyFrom(history.prepared());
+        text.goToStart();
+        for (int done = 0; done < orders; done++) {
+            int answer = performNext();
+            if (answer < 0) {
+                now.copyFrom(history.prepared);
+                return answer;
+            }
         }
-        return history.settle(answer);
+        return history.settle(orders);
     }
 
     // ---- history
@@ -231,7 +235,7 @@ public final class RightsDesk {
         }
         // The covering is tried on a copy, so that it can't differ from the covering of a day.
         history.prepare(now);
-        return history.prepared().coverRightsOf(row);
+        return history.prepared.coverRightsOf(row);
     }
 
     public int event(int back, int what) {
@@ -252,20 +256,9 @@ public final class RightsDesk {
         return now.tellCount(what);
     }
 
-    private int performOrders(int orders) {
-        text.goToStart();
-        for (int done = 0; done < orders; done++) {
-            text.readOrder();
-            text.skip(';');
-            int answer = performOrder();
-            if (answer < 0) {
-                return answer;
-            }
-        }
-        return orders;
-    }
-
-    private int performOrder() {
+    private int performNext() {
+        text.readOrder();
+        text.skip(';');
         switch (text.kind) {
             case 'b':
                 return now.sellTo(text.first, text.second);
@@ -319,7 +312,8 @@ public final class RightsDesk {
                 return base + base * rightsOut / places;
             }
             if (rule == BY_DAYS_LEFT) {
-                return base * (100 + 2 * Math.max(0, 30 - daysLeft)) / 100;
+                int late = daysLeft < 30 ? 30 - daysLeft : 0;
+                return base * (100 + 2 * late) / 100;
             }
             return base;
         }
@@ -567,7 +561,7 @@ public final class RightsDesk {
                 return NOT_POSSIBLE;
             }
             int price = cheapest.asking;
-            take(holder, price);
+            give(holder, -price);
             give(cheapest.holder, price - price * numbers[COMMISSION] / 100);
             cheapest.holder = holder;
             cheapest.resold++;
@@ -638,7 +632,7 @@ public final class RightsDesk {
             }
             int strike = numbers[STRIKE];
             row.turnTo(EXERCISED, 0);
-            take(row.holder, strike);
+            give(row.holder, -strike);
             log(EXERCISE, row, strike);
             return rightsIn(ofDate, EXERCISED);
         }
@@ -719,25 +713,26 @@ public final class RightsDesk {
             int paid = 0;
             int tooMany = rightsOut(row) - row.places;
             for (int i = 0; i < tooMany; i++) {
-                paid += coverOneOf(row);
+                RightRow next = nextToCover(row);
+                if (next == null) {
+                    return paid;
+                }
+                paid += coverOne(next);
             }
             return paid;
         }
 
-        private int coverOneOf(DateRow row) {
-            RightRow next = cheapestOffered(row);
-            if (next != null) {
-                return coverFor(next, next.asking);
-            }
-            next = cheapestHeld(row);
-            return next == null ? 0 : coverFor(next, next.cost * 3 / 2);
-        }
-
-        private int coverFor(RightRow row, int cents) {
+        private int coverOne(RightRow row) {
+            int cents = row.state == OFFERED ? row.asking : row.cost * 3 / 2;
             row.turnTo(COVERED, 0);
             give(row.holder, cents);
             log(COVER, row, cents);
             return cents;
+        }
+
+        private RightRow nextToCover(DateRow row) {
+            RightRow offered = cheapestOffered(row);
+            return offered == null ? cheapestHeld(row) : offered;
         }
 
         private void letListBuy(DateRow row) {
@@ -764,7 +759,7 @@ public final class RightsDesk {
             sold.soldOn = day;
             sold.resold = 0;
             sold.turnTo(HELD, 0);
-            take(holder, price);
+            give(holder, -price);
             log(SALE, sold, price);
             return sold.number;
         }
@@ -791,10 +786,6 @@ public final class RightsDesk {
             }
         }
 
-        private void take(int holder, int cents) {
-            give(holder, -cents);
-        }
-
         private void log(int kind, RightRow of, int cents) {
             EventRow row = events[MOST_EVENTS - 1];
             for (int i = MOST_EVENTS - 1; i > 0; i--) {
@@ -815,11 +806,18 @@ public final class RightsDesk {
         }
 
         private boolean isOpen(DateRow row) {
-            return daysLeft(row) >= 1;
+            return row.day > day;
         }
 
         int rightsOut(DateRow row) {
-            return rightsIn(row, HELD) + rightsIn(row, OFFERED) + rightsIn(row, EXERCISED);
+            int found = 0;
+            for (int i = 0; i < rightCount && i < rights.length; i++) {
+                // The states behind EXERCISED are those of rights that are no longer out.
+                if (rights[i].date == row.number && rights[i].state <= EXERCISED) {
+                    found++;
+                }
+            }
+            return found;
         }
 
         private int rightsIn(DateRow row, int state) {
@@ -1028,32 +1026,34 @@ public final class RightsDesk {
         }
     }
 
-    /** The latest states, in a ring with one row more than there are states: in it the next one is prepared. */
     private static final class History {
-        final State[] ring = new State[MOST_STATES + 1];
-        int free;
+        /** The latest state comes first; the rows behind the last one wait to be used again. */
+        final State[] past = new State[MOST_STATES];
         int count;
+        State prepared = new State();
 
         History() {
-            for (int i = 0; i < ring.length; i++) {
-                ring[i] = new State();
+            for (int i = 0; i < past.length; i++) {
+                past[i] = new State();
             }
         }
 
         void prepare(State state) {
-            ring[free].copyFrom(state);
-        }
-
-        State prepared() {
-            return ring[free];
+            prepared.copyFrom(state);
         }
 
         /** An answer below 0 is an error or NONE, of which the history keeps nothing. */
         int settle(int answer) {
-            if (answer >= 0) {
-                free = (free + 1) % ring.length;
-                count = Math.min(count + 1, MOST_STATES);
+            if (answer < 0) {
+                return answer;
             }
+            State oldest = past[MOST_STATES - 1];
+            for (int i = MOST_STATES - 1; i > 0; i--) {
+                past[i] = past[i - 1];
+            }
+            past[0] = prepared;
+            prepared = oldest;
+            count = Math.min(count + 1, MOST_STATES);
             return answer;
         }
 
@@ -1061,9 +1061,13 @@ public final class RightsDesk {
             if (count == 0) {
                 return null;
             }
+            State latest = past[0];
+            for (int i = 0; i + 1 < MOST_STATES; i++) {
+                past[i] = past[i + 1];
+            }
+            past[MOST_STATES - 1] = latest;
             count--;
-            free = (free + ring.length - 1) % ring.length;
-            return ring[free];
+            return latest;
         }
     }
 
